@@ -17,7 +17,6 @@ public final class JettisonDesk {
     private static final int MOST_INTERESTS = 1 + 2 * MOST_LOTS;
     private static final int MOST_ACTS = 12;
     private static final int MOST_UNITS = 1000000;
-    private static final int SHIP = 0;
     private static final int PROPER_TERMS = 0;
     private static final int LAST_TERMS = 2;
 
@@ -47,8 +46,9 @@ public final class JettisonDesk {
         if (voyages.size() >= MOST_VOYAGES) {
             return NONE;
         }
-        Interest ship = new Interest(owner, worth, worth, NONE, NONE, PROPER_TERMS);
-        voyages.add(new Voyage(ship, ports, adjuster));
+        Voyage begun = new Voyage(owner, ports, adjuster);
+        begun.interests.add(new Interest(owner, worth, worth, NONE, NONE, PROPER_TERMS));
+        voyages.add(begun);
         return voyages.size() - 1;
     }
 
@@ -335,15 +335,15 @@ public final class JettisonDesk {
         final int[] part = new int[MOST_INTERESTS];
         final int[] borne = new int[MOST_INTERESTS];
         private final long[] cutOff = new long[MOST_INTERESTS];
-        private int interests;
+        private int places;
         private int spentMadeGood;
         private int allBorne;
         private int allParts;
 
         /** Before the latest act each interest has what is left of it. */
         void start(List<Interest> all) {
-            interests = Math.min(all.size(), MOST_INTERESTS);
-            for (int i = 0; i < interests; i++) {
+            places = Math.min(all.size(), MOST_INTERESTS);
+            for (int i = 0; i < places; i++) {
                 has[i] = all.get(i).left;
             }
         }
@@ -351,7 +351,7 @@ public final class JettisonDesk {
         void adjust(Act act) {
             int allHave = 0;
             allParts = 0;
-            for (int i = 0; i < interests; i++) {
+            for (int i = 0; i < places; i++) {
                 part[i] = 0;
                 if (act.atRisk[i]) {
                     allHave += has[i];
@@ -362,8 +362,8 @@ public final class JettisonDesk {
             spentMadeGood = Math.min(act.allSpent, allHave);
             // What the parts hold beyond what all have is what was made good for them.
             allBorne = spentMadeGood + allParts - allHave;
-            divide(allBorne, part, interests, borne);
-            for (int i = 0; i < interests; i++) {
+            divide(allBorne, part, places, borne);
+            for (int i = 0; i < places; i++) {
                 if (act.atRisk[i]) {
                     has[i] = part[i] - borne[i];
                 }
@@ -372,8 +372,8 @@ public final class JettisonDesk {
 
         /** Writes what was just adjusted into the act. */
         void record(Act act) {
-            System.arraycopy(part, 0, act.part, 0, interests);
-            System.arraycopy(borne, 0, act.borne, 0, interests);
+            System.arraycopy(part, 0, act.part, 0, places);
+            System.arraycopy(borne, 0, act.borne, 0, places);
             act.spentMadeGood = spentMadeGood;
             act.allBorne = allBorne;
             act.allParts = allParts;
@@ -404,7 +404,8 @@ public final class JettisonDesk {
             for (int unit = 0; unit < rest && unit < n; unit++) {
                 int most = placeOfMost(cutOff, n);
                 shares[most]++;
-                cutOff[most] = NONE;
+                // Less than any that was not chosen yet.
+                cutOff[most] = -1;
             }
         }
 
@@ -496,6 +497,7 @@ public final class JettisonDesk {
         final List<Act> acts = new ArrayList<>();
         final List<Event> events = new ArrayList<>();
         final Settlement settlement = new Settlement();
+        private final int shipOwner;
         private final int ports;
         private final Adjuster adjuster;
         int port;
@@ -504,11 +506,12 @@ public final class JettisonDesk {
         private boolean wrecked;
         private int lots;
 
-        Voyage(Interest ship, int ports, Adjuster adjuster) {
+        /** The ship is put in as the first interest by who makes the voyage. */
+        Voyage(int shipOwner, int ports, Adjuster adjuster) {
+            this.shipOwner = shipOwner;
             this.ports = ports;
             this.adjuster = adjuster;
             openAct = NONE;
-            interests.add(ship);
         }
 
         boolean isEnded() {
@@ -533,13 +536,12 @@ public final class JettisonDesk {
 
         /** Loads what canLoadFor() allows: the lot's number. */
         int load(Interest lot, int freight) {
-            note(LOADING, NONE, 0, 0);
+            note(LOADING);
             int number = interests.size();
             interests.add(lot);
             lots++;
             if (freight > 0) {
-                int owner = interests.get(SHIP).owner;
-                interests.add(new Interest(owner, freight, freight, lot.port, number, PROPER_TERMS));
+                interests.add(new Interest(shipOwner, freight, freight, lot.port, number, PROPER_TERMS));
             }
             return number;
         }
@@ -548,7 +550,7 @@ public final class JettisonDesk {
             if (!takesEvents()) {
                 return NONE;
             }
-            note(MOVING, NONE, 0, 0);
+            note(MOVING);
             if (underWay) {
                 port++;
             }
@@ -561,7 +563,7 @@ public final class JettisonDesk {
             if (!takesEvents() || acts.size() >= MOST_ACTS) {
                 return NONE;
             }
-            note(BEGINNING, NONE, 0, 0);
+            note(BEGINNING);
             Act begun = new Act();
             for (int i = 0; i < interests.size() && i < MOST_INTERESTS; i++) {
                 Interest one = interests.get(i);
@@ -582,7 +584,7 @@ public final class JettisonDesk {
             int good = given.madeGoodFor(n);
             open.addGiving(number, n, good);
             open.addGiving(number + 1, freightTaken, given.freightMadeGoodFor(freightTaken));
-            note(GIVING, number, n, freightTaken);
+            noteTouching(GIVING, number, n, freightTaken);
             return good;
         }
 
@@ -595,7 +597,7 @@ public final class JettisonDesk {
                 return NONE;
             }
             open.addExpense(owner, n);
-            note(SPENDING, owner, n, 0);
+            noteTouching(SPENDING, owner, n, 0);
             return open.spent[owner];
         }
 
@@ -604,7 +606,7 @@ public final class JettisonDesk {
             if (damaged == null || !takesEvents() || !canTake(damaged, n)) {
                 return NONE;
             }
-            note(LOSING, number, n, take(number, n));
+            noteTouching(LOSING, number, n, take(number, n));
             return damaged.left;
         }
 
@@ -612,7 +614,7 @@ public final class JettisonDesk {
             if (!takesEvents() || !underWay) {
                 return false;
             }
-            note(WRECKING, NONE, 0, 0);
+            note(WRECKING);
             for (int i = 0; i < interests.size(); i++) {
                 Interest one = interests.get(i);
                 if (isAboard(one)) {
@@ -631,7 +633,7 @@ public final class JettisonDesk {
                 return false;
             }
             Event latest = events.remove(events.size() - 1);
-            // Of the expenses and givings the act must be open while they are taken back.
+            // First, for givings and expenses are taken out of the act that is open.
             openAct = latest.openBefore;
             switch (latest.kind) {
                 case LOADING: unload(); break;
@@ -640,7 +642,8 @@ public final class JettisonDesk {
                 case GIVING: ungive(latest); break;
                 case SPENDING: unspend(latest); break;
                 case LOSING: putBack(latest); break;
-                default: unwreck(); break;
+                case WRECKING: unwreck(); break;
+                default: break;
             }
             return true;
         }
@@ -664,8 +667,12 @@ public final class JettisonDesk {
             return isAboard(one) && !one.isFreight() && isWithin(n, 1, one.left);
         }
 
+        private void note(int kind) {
+            noteTouching(kind, NONE, 0, 0);
+        }
+
         /** Writes an event down; all but givings and expenses close the act that is open. */
-        private void note(int kind, int place, int n, int freightTaken) {
+        private void noteTouching(int kind, int place, int n, int freightTaken) {
             events.add(new Event(kind, place, n, freightTaken, openAct));
             if (kind != GIVING && kind != SPENDING) {
                 openAct = NONE;

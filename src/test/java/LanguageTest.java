@@ -115,7 +115,8 @@ public final class LanguageTest {
             "\\w+Exact", "hashCode", "toString", "equals", "protected"};
         for (String word : banned) {
             String edges = Character.isLetter(word.charAt(0)) ? "\\b" : "";
-            Matcher found = Pattern.compile(edges + "(?:" + word + ")" + (word.endsWith(")") ? "" : edges)).matcher(code);
+            String end = word.endsWith(")") ? "" : edges;
+            Matcher found = Pattern.compile(edges + "(?:" + word + ")" + end).matcher(code);
             due.is("the word " + word, found.find(), false);
         }
         Matcher imports = Pattern.compile("import\\s+([\\w.*]+);").matcher(code);

@@ -314,6 +314,16 @@ public final class PromisesTest {
         due.is("without freight", x.give(0, 3, 1), 1);
         due.is("all of it", x.interest(0, 4, 2), 0);
         due.is("freight made good", x.share(0, 0, 4, 2), 100);
+        JettisonDesk y = new JettisonDesk();
+        y.voyage(4, 1, 2);
+        y.lot(0, 1, 1, 1, 1, 1, 0);
+        y.act(0);
+        for (int i = 0; i < 3; i++) {
+            due.is("one unit is at risk", y.share(0, 0, i, 0), 1);
+        }
+        due.is("one unit of a lot", y.give(0, 1, 1), 1);
+        due.is("its freight", y.share(0, 0, 2, 2), 1);
+        due.is("one unit of the ship", y.give(0, 0, 1), 1);
     }
 
     private void promise7() {
@@ -335,6 +345,8 @@ public final class PromisesTest {
         due.is("n MIN", x.spend(0, 29, MIN), NONE);
         due.is("n -1", x.spend(0, 29, -1), NONE);
         due.is("adds up", x.spend(0, 29, 2), 3);
+        due.is("n 0 behind others", x.spend(0, 29, 0), NONE);
+        due.is("n -1 behind others", x.spend(0, 29, -1), NONE);
         due.is("another owner", x.spend(0, 0, 1000000), 1000000);
         due.is("to the bound", x.spend(0, 29, 999997), 1000000);
         due.is("past the bound", x.spend(0, 29, 1), NONE);
@@ -564,6 +576,7 @@ public final class PromisesTest {
         }
         x.lot(0, 1, 300, 100, 1, 90, 0);
         x.act(0);
+        due.is("none open at first", desk().told(0, 5), NONE);
         int[] first = {0, 0, 0, 3, 1, 0, 2};
         for (int what = 0; what < first.length; what++) {
             due.is("lying, " + what, x.told(0, what), first[what]);
@@ -813,6 +826,20 @@ public final class PromisesTest {
         due.is("cut", x.gets(0, 0, 29), 3);
         due.is("spent nothing", x.gets(0, 0, 0), 0);
         due.is("an act without expenses", x.gets(0, 1, 3), 0);
+        JettisonDesk y = desk();
+        y.move(0);
+        y.move(0);
+        y.move(0);
+        y.act(0);
+        y.spend(0, 7, 10);
+        y.move(0);
+        due.is("all of it", y.gets(0, 0, 7), 10);
+        y.back(0);
+        due.is("no more ended", y.gets(0, 0, 7), NONE);
+        y.back(0);
+        y.move(0);
+        due.is("the expense was taken back", y.gets(0, 0, 7), 0);
+        due.is("the balance too", y.balance(0, 7), 0);
     }
 
     private void promise16() {
@@ -934,6 +961,34 @@ public final class PromisesTest {
         end(y, 0);
         due.is("no payments", y.payments(0), 0);
         due.is("no payment", y.payment(0, 0, 0), NONE);
+        JettisonDesk z = new JettisonDesk();
+        z.voyage(1, 1, 2);
+        z.act(0);
+        z.spend(0, 0, 1);
+        end(z, 0);
+        due.is("owner 0 gets", z.gets(0, 0, 0), 1);
+        due.is("one unit", z.payments(0), 1);
+        due.is("who pays", z.payment(0, 0, 0), 1);
+        due.is("whom", z.payment(0, 0, 1), 0);
+        due.is("how much", z.payment(0, 0, 2), 1);
+        payAllOthers();
+    }
+
+    private void payAllOthers() {
+        JettisonDesk x = new JettisonDesk();
+        x.voyage(0, 29, 2);
+        x.act(0);
+        for (int owner = 1; owner < 30; owner++) {
+            x.spend(0, owner, 1);
+        }
+        end(x, 0);
+        due.is("one pays all others", x.payments(0), 29);
+        for (int k = 0; k < 29; k++) {
+            due.is("who pays", x.payment(0, k, 0), 0);
+            due.is("whom", x.payment(0, k, 1), k + 1);
+            due.is("how much", x.payment(0, k, 2), 1);
+        }
+        due.is("no 30th", x.payment(0, 29, 0), NONE);
     }
 
     private void promise20() {
@@ -955,20 +1010,19 @@ public final class PromisesTest {
         due.part("after the 512th call");
         JettisonDesk x = desk();
         x.lot(0, 1, 1000000, 1000000, 2, 1000000, 0);
-        x.act(0);
         for (int i = 0; i < 2000; i++) {
-            x.give(0, 1, 1);
-            x.lose(0, 0, 1);
             x.act(0);
+            x.give(0, 1, 1);
             x.spend(0, i % 30, 1);
+            x.lose(0, 1, 1);
         }
         end(x, 0);
-        int taken = 0;
-        for (int i = 0; i < 20000 && x.back(0); i++) {
-            taken++;
+        x.without(0, 0, 0);
+        x.payments(0);
+        for (int i = 0; i < 9000; i++) {
+            x.back(0);
         }
-        due.is("every event can be taken back", taken > 500 ? 1 : 0, 1);
-        due.is("left", x.interest(0, 0, 2), 1000);
+        due.is("voyages stay", x.count(), 1);
     }
 
     private void apart() {

@@ -41,6 +41,9 @@ public final class ReferenceTest {
     }
 
     private void run() {
+        if (random.nextInt(20) == 0) {
+            crowd();
+        }
         while (calls < CALLS && due.failed() == 0) {
             calls++;
             if (desk.count() == 0 || random.nextInt(60) == 0) {
@@ -50,6 +53,16 @@ public final class ReferenceTest {
             } else {
                 question(voyage());
             }
+        }
+    }
+
+    /** A voyage with as many lots as it takes, and one too many. */
+    private void crowd() {
+        calls++;
+        call("voyage", random.nextInt(owners), 1 + random.nextInt(scale), 3);
+        for (int i = 0; i < 80; i++) {
+            calls++;
+            load(0);
         }
     }
 

@@ -371,7 +371,7 @@ public final class JettisonDesk {
         }
 
         /** Writes what was just adjusted into the act. */
-        void record(Act act) {
+        void writeInto(Act act) {
             System.arraycopy(part, 0, act.part, 0, places);
             System.arraycopy(borne, 0, act.borne, 0, places);
             act.spentMadeGood = spentMadeGood;
@@ -707,7 +707,7 @@ public final class JettisonDesk {
             adjuster.start(interests);
             for (int a = acts.size() - 1; a >= 0; a--) {
                 adjuster.adjust(acts.get(a));
-                adjuster.record(acts.get(a));
+                adjuster.writeInto(acts.get(a));
             }
             for (int i = 0; i < interests.size() && i < MOST_INTERESTS; i++) {
                 interests.get(i).has = adjuster.has[i];

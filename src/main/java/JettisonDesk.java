@@ -522,8 +522,10 @@ public final class JettisonDesk {
             return one.port == NONE || !wrecked && port < one.port;
         }
 
+        /** One that is found has a place in the rows of each act too. */
         Interest interestAt(int number) {
-            return isWithin(number, 0, interests.size() - 1) ? interests.get(number) : null;
+            int places = Math.min(interests.size(), MOST_INTERESTS);
+            return isWithin(number, 0, places - 1) ? interests.get(number) : null;
         }
 
         Act actAt(int number) {

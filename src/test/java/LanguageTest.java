@@ -6,16 +6,23 @@ import java.lang.reflect.Method;
 import java.lang.reflect.Modifier;
 import java.nio.file.Files;
 import java.nio.file.Path;
+import java.util.List;
 import java.util.Set;
 import java.util.TreeSet;
 import java.util.regex.Matcher;
 import java.util.regex.Pattern;
 
-/** The rules of LANGUAGE.md that can be seen from outside: the face, the words, the room. */
+/** The rules of LANGUAGE.md that can be seen from outside: the face, the words, the library, the room. */
 public final class LanguageTest {
     private static final Path SOURCE = Path.of("src/main/java/JettisonDesk.java");
     /** The room has 7.3 million fields and elements; at four bytes each, and far from full. */
     private static final long MOST_BYTES = 8_000_000;
+    private static final int MOST_LINES = 60;
+    /** What rule 4 leaves of the library, as far as the class could need it. */
+    private static final String LIBRARY = "java/lang/Object\\.<init>\\(|java/util/ArrayList\\.<init>\\(\\)"
+            + "|java/util/(List|ArrayList)\\.((add|get|set|size|isEmpty|clear)\\(|remove\\(I\\))"
+            + "|java/lang/(Math|Integer|Long)\\.(compare|max|min|abs|bitCount|floorDiv|floorMod)\\("
+            + "|java/lang/System\\.arraycopy\\(|java/util/Arrays\\.(copyOf|copyOfRange|fill)\\(";
     private static final String[] FACE = {
         "int voyage(int,int,int)", "int lot(int,int,int,int,int,int,int)", "int move(int)", "int act(int)",
         "int give(int,int,int)", "int spend(int,int,int)", "int lose(int,int,int)", "boolean lost(int)",
@@ -31,6 +38,8 @@ public final class LanguageTest {
         test.names();
         test.staticFields();
         test.words();
+        test.lengths();
+        test.library();
         test.room();
         test.due.end();
     }
@@ -75,6 +84,12 @@ public final class LanguageTest {
         Set<String> publicNames = new TreeSet<>();
         for (String signature : FACE) {
             publicNames.add(signature.substring(signature.indexOf(' ') + 1, signature.indexOf('(')));
+        }
+        for (Method method : JettisonDesk.class.getDeclaredMethods()) {
+            boolean isPrivate = Modifier.isPrivate(method.getModifiers());
+            due.is(method + " is private and bears a public name", isPrivate && publicNames.contains(method.getName()),
+                    false);
+            due.is(method + " has few parameters", method.getParameterCount() <= 7, true);
         }
         for (Class<?> inside : JettisonDesk.class.getDeclaredClasses()) {
             checkMethods(inside, publicNames);
@@ -123,6 +138,35 @@ public final class LanguageTest {
         Set<String> allowed = Set.of("java.util.ArrayList", "java.util.Arrays", "java.util.List");
         while (imports.find()) {
             due.is("import " + imports.group(1), allowed.contains(imports.group(1)), true);
+        }
+    }
+
+    private void lengths() throws IOException {
+        due.part("rule 11, methods stay short");
+        List<String> lines = Files.readAllLines(SOURCE);
+        Pattern head = Pattern.compile("( {4}| {8})(?!if|for|while|switch|else)\\w.*\\) \\{");
+        int methods = 0;
+        for (int k = 0; k < lines.size(); k++) {
+            Matcher found = head.matcher(lines.get(k));
+            if (found.matches()) {
+                int length = lines.subList(k, lines.size()).indexOf(found.group(1) + "}") + 1;
+                due.is(lines.get(k).trim() + " has " + length + " lines", length > 0 && length <= MOST_LINES, true);
+                methods++;
+            }
+        }
+        due.is("methods were found", methods > FACE.length, true);
+    }
+
+    private void library() throws IOException {
+        due.part("rule 4, the library");
+        Set<String> used = new TreeSet<>(new ClassFile(JettisonDesk.class).calls());
+        for (Class<?> inside : JettisonDesk.class.getDeclaredClasses()) {
+            used.addAll(new ClassFile(inside).calls());
+        }
+        used.removeIf(call -> call.startsWith("JettisonDesk"));
+        due.is("some are used", used.contains("java/util/List.size()I"), true);
+        for (String call : used) {
+            due.is(call, Pattern.compile(LIBRARY).matcher(call).lookingAt(), true);
         }
     }
 

@@ -53,6 +53,9 @@ final class ReferenceDesk {
         boolean underWay;
         boolean lost;
         int open;
+        /** What was adjusted last, kept till an event comes or is taken back; null if nothing was. */
+        private long[] adjusted;
+        private int adjustedWithout;
 
         Trip(int owner, int worth, int ports) {
             this.owner = owner;
@@ -66,6 +69,7 @@ final class ReferenceDesk {
         }
 
         void replay() {
+            adjusted = null;
             things.clear();
             deeds.clear();
             port = 0;
@@ -88,6 +92,7 @@ final class ReferenceDesk {
         }
 
         private int happen(Told event) {
+            adjusted = null;
             int[] args = event.args();
             if (event.kind().equals("give")) {
                 return given(args[0], args[1]);
@@ -199,6 +204,14 @@ final class ReferenceDesk {
 
         /** What each has in the end; what is borne is written into the deeds. */
         long[] adjust(int without) {
+            if (adjusted == null || adjustedWithout != without) {
+                adjusted = adjustAnew(without);
+                adjustedWithout = without;
+            }
+            return adjusted;
+        }
+
+        private long[] adjustAnew(int without) {
             long[] has = things.stream().mapToLong(t -> t.left).toArray();
             for (int a = deeds.size() - 1; a >= 0; a--) {
                 Deed deed = deeds.get(a);
